@@ -1092,7 +1092,7 @@ public final class WireDigs {
                 if (end == NONE) {
                     reason = NO_FORM;
                 } else {
-                    reason = doOrder(chip, router, text[position], numberIn(position + 1, end));
+                    reason = doOrder(chip, router, characterAt(position), numberIn(position + 1, end));
                 }
                 if (reason == WELL) {
                     orders++;

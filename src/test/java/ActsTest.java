@@ -15,6 +15,8 @@ public final class ActsTest {
         hearNothingDue();
         hearExactly();
         hearReturnsWire();
+        hearReturnsWireOfLaterClaim();
+        hearReturnsWireInCorner();
         hearWireNotFree();
         hearHolderJoined();
         hearDiggerNotJoined();
@@ -279,6 +281,44 @@ public final class ActsTest {
         Check.due("not wronged, as it is joined", x.wronged(), 0);
         Check.due("rip what came back", x.rip(0), 7);
         Check.due("wronged then", x.wronged(), 1);
+    }
+
+    private static void hearReturnsWireOfLaterClaim() {
+        WireDigs x = Scenes.gate(2, 0, 1, 18);
+        x.lay(0);
+        x.dig(1);
+        x.dig(0);
+        Check.due("appeal of claim 1", x.appeal(1), 1);
+        Check.due("all that is left of what net 0 was paid", x.hear(), 3);
+        Check.due("net 0 loses its wire", x.netOf(0, 5), 0);
+        Scenes.dueWire(x, 1, 28, 29, 30, 32, 33, 34, 39, 40, 41, 111, 113, 120, 122);
+        Check.due("appeal of claim 0", x.appeal(0), 1);
+        Check.due("all that net 1 has", x.hear(), 18);
+        Check.due("net 1 loses its wire", x.netOf(1, 5), 0);
+        Scenes.dueWire(x, 0, 37, 38, 39, 40, 41, 42, 43);
+    }
+
+    /** The wire of net 0 goes through both cells of place 0, and so does that of net 1. */
+    private static void hearReturnsWireInCorner() {
+        WireDigs x = new WireDigs();
+        int[] blocked = {10, 12, 20, 28};
+        for (int place : blocked) {
+            x.block(place, 1);
+        }
+        x.net(3, 27, -1, 0, 0);
+        x.net(11, 19, -1, 0, 24);
+        Check.due("lay", x.lay(0), 9);
+        Scenes.dueWire(x, 0, 0, 1, 2, 81, 90, 99);
+        Check.due("via in the corner", x.netOf(0, 7), 1);
+        Check.due("cells of wires", x.count(8), 6);
+        Check.due("dig", x.dig(1), 24);
+        Scenes.dueClaim(x, 0, 0, 1, 6, 1, 24, 39, 0, 0);
+        Scenes.dueWire(x, 1, 0, 1, 2, 18, 81, 83, 90, 99);
+        x.appeal(0);
+        Check.due("nothing is left to pay with", x.hear(), 0);
+        Scenes.dueWire(x, 0, 0, 1, 2, 81, 90, 99);
+        Check.due("rip", x.rip(0), 6);
+        Check.due("the corner is free", x.cellOf(0), Scenes.MISSING);
     }
 
     private static void hearWireNotFree() {

@@ -5,6 +5,7 @@ public final class RoutesTest {
         lowestOfCheapest();
         costOfVia();
         throughOwnPins();
+        secondPathOfLaterNet();
         secondPath();
         secondPathFromPinOne();
         costErrors();
@@ -17,6 +18,7 @@ public final class RoutesTest {
         bestOrder();
         bestOrderOfTwo();
         bestOrderOfMore();
+        eachBestOrder();
         Check.finish();
     }
 
@@ -74,6 +76,15 @@ public final class RoutesTest {
         y.net(4, 76, 40, 0, 0);
         Check.due("through pin 2 on layer 1", y.cost(0, 0), 8);
         Scenes.dueRoute(y, 0, 0, 157, 148, 139, 130, 121, 112, 103, 94, 85, 40);
+    }
+
+    private static void secondPathOfLaterNet() {
+        WireDigs x = new WireDigs();
+        x.net(0, 1, -1, 0, 0);
+        x.net(4, 76, 40, 0, 0);
+        Scenes.dueRoute(x, 1, 0, 157, 148, 139, 130, 121, 112, 103, 94, 85, 40);
+        Check.due("lay", x.lay(1), 8);
+        Scenes.dueWire(x, 1, 94, 103, 112, 130, 139, 148);
     }
 
     private static void secondPath() {
@@ -277,5 +288,60 @@ public final class RoutesTest {
         x.lay(3);
         Check.due("two are left", x.bestOrder(-1), 2);
         Check.due("the second one", x.bestOrder(1), 4);
+    }
+
+    private static void eachBestOrder() {
+        dueBestOrder(orderScene(3, 2, 0, 11, 2, 10, 9, 1), 0, 0, 1, 2);
+        dueBestOrder(orderScene(3, 2, 11, 2, 9, 1, 10, 0), 1, 0, 1, 2);
+        dueBestOrder(orderScene(3, 2, 2, 1, 11, 0, 9, 10), 2, 0, 1, 2);
+        dueBestOrder(orderScene(3, 2, 10, 9, 2, 11, 1, 0), 3, 0, 1, 2);
+        dueBestOrder(orderScene(3, 3, 20, 18, 1, 9, 2, 19), 2, 0, 2, 1);
+        dueBestOrder(orderScene(3, 4, 29, 20, 18, 2, 28, 0), 3, 0, 2, 1);
+        dueBestOrder(orderScene(3, 3, 1, 9, 11, 19, 18, 20), 2, 1, 0, 2);
+        dueBestOrder(orderScene(4, 3, 19, 12, 9, 3, 0, 1), 3, 1, 0, 2);
+        dueBestOrder(orderScene(3, 3, 19, 9, 0, 2, 1, 11), 2, 1, 2, 0);
+        dueBestOrder(orderScene(3, 4, 27, 10, 2, 11, 1, 20), 3, 1, 2, 0);
+        dueBestOrder(orderScene(3, 4, 29, 0, 28, 11, 2, 9), 2, 2, 0, 1);
+        dueBestOrder(orderScene(3, 4, 28, 20, 1, 9, 18, 11), 3, 2, 0, 1);
+        dueBestOrder(orderScene(3, 4, 1, 11, 0, 28, 27, 29), 3, 2, 1, 0);
+    }
+
+    private static WireDigs orderScene(int columns, int rows, int... pins) {
+        WireDigs x = Scenes.corner(columns, rows);
+        for (int i = 0; i < pins.length; i += 2) {
+            x.net(pins[i], pins[i + 1], -1, 0, 0);
+        }
+        return x;
+    }
+
+    private static void dueBestOrder(WireDigs x, int most, int first, int second, int third) {
+        Check.due("bestOrder(-1)", x.bestOrder(-1), most);
+        Check.due("bestOrder(0)", x.bestOrder(0), first);
+        Check.due("bestOrder(1)", x.bestOrder(1), second);
+        Check.due("bestOrder(2)", x.bestOrder(2), third);
+        int best = 100 * first + 10 * second + third;
+        for (int code = 0; code < 27; code++) {
+            int a = code / 9;
+            int b = code / 3 % 3;
+            int c = code % 3;
+            if (a != b && b != c && a != c) {
+                int joined = joinedByLaying(x, a, b, c);
+                int order = 100 * a + 10 * b + c;
+                Check.dueThat("no better order than " + best + ", but " + order + " joins " + joined,
+                    order < best ? joined < most : joined <= most);
+                Check.dueThat("the order joins as many as told", order != best || joined == most);
+            }
+        }
+    }
+
+    private static int joinedByLaying(WireDigs x, int... order) {
+        int joined = 0;
+        for (int net : order) {
+            joined += x.lay(net) >= 0 ? 1 : 0;
+        }
+        for (int i = 0; i < joined; i++) {
+            x.undo();
+        }
+        return joined;
     }
 }

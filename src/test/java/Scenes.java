@@ -34,6 +34,18 @@ final class Scenes {
         return x;
     }
 
+    /** A chip of which only so many columns and rows, from place 0 on, can be reached. */
+    static WireDigs corner(int columns, int rows) {
+        WireDigs x = new WireDigs();
+        for (int row = 0; row < rows; row++) {
+            x.block(9 * row + columns, 1);
+        }
+        for (int column = 0; column < columns; column++) {
+            x.block(9 * rows + column, 1);
+        }
+        return x;
+    }
+
     static void wall(WireDigs x, int column) {
         for (int row = 0; row < 9; row++) {
             if (row != 4) {
