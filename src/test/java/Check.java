@@ -2,24 +2,37 @@
 final class Check {
     private static int made = 0;
     private static int wrong = 0;
+    /** Told ahead of each answer that is not as due. */
+    private static String about = "";
 
     private Check() {
+    }
+
+    static void about(String what) {
+        about = what;
+    }
+
+    static int made() {
+        return made;
     }
 
     static void due(String what, long got, long want) {
         made++;
         if (got != want) {
-            wrong++;
-            System.out.println(what + " answered " + got + ", due is " + want);
+            tell(what + " answered " + got + ", due is " + want);
         }
     }
 
     static void dueThat(String what, boolean holds) {
         made++;
         if (!holds) {
-            wrong++;
-            System.out.println(what + " does not hold");
+            tell(what + " does not hold");
         }
+    }
+
+    private static void tell(String fault) {
+        wrong++;
+        System.out.println(about + fault);
     }
 
     static void finish() {

@@ -1,3 +1,5 @@
+import java.util.List;
+
 /** Promises 20 to 24: claimOf, docketAt, wronged, count, undo. */
 public final class ClaimsTest {
     public static void main(String[] args) {
@@ -169,23 +171,30 @@ public final class ClaimsTest {
 
     private static void undoEachChange() {
         for (int kind = 0; kind < 12; kind++) {
-            WireDigs x = Scenes.gate(2, 100, 1, 20);
-            x.net(45, 48, -1, 0, 0);
-            x.lay(0);
-            x.dig(1);
-            if (kind == 8 || kind == 11) {
-                x.appeal(0);
-            }
-            Scenes.typeAll(x, "r1;l1;h;");
-            int[] before = snapshot(x);
+            List<Integer> before = Snapshot.ofChip(beforeChange(kind));
+            WireDigs x = beforeChange(kind);
             Check.due("states", x.count(10), 4);
             Check.dueThat("change of kind " + kind, change(x, kind) >= 0);
-            Check.dueThat("something is changed by kind " + kind, !same(before, snapshot(x)));
-            Check.due("states", x.count(10), 4);
-            Check.due("undo of kind " + kind, x.undo(), 3);
-            Check.dueThat("all is as before kind " + kind, same(before, snapshot(x)));
-            Check.dueThat("the same again by kind " + kind, change(x, kind) >= 0);
+            Check.dueThat("something is changed by kind " + kind, !before.equals(Snapshot.ofChip(x)));
+            WireDigs y = beforeChange(kind);
+            change(y, kind);
+            Check.due("states", y.count(10), 4);
+            Check.due("undo of kind " + kind, y.undo(), 3);
+            Check.dueThat("all is as before kind " + kind, before.equals(Snapshot.ofChip(y)));
+            Check.dueThat("the same again by kind " + kind, change(y, kind) >= 0);
         }
+    }
+
+    private static WireDigs beforeChange(int kind) {
+        WireDigs x = Scenes.gate(2, 100, 1, 20);
+        x.net(45, 48, -1, 0, 0);
+        x.lay(0);
+        x.dig(1);
+        if (kind == 8 || kind == 11) {
+            x.appeal(0);
+        }
+        Scenes.typeAll(x, "r1;l1;h;");
+        return x;
     }
 
     private static int change(WireDigs x, int kind) {
@@ -203,34 +212,6 @@ public final class ClaimsTest {
             case 10: return x.lay(2);
             default: return x.play();
         }
-    }
-
-    /** All answers but the number of states and those about the text. */
-    private static int[] snapshot(WireDigs x) {
-        int[] all = new int[1000];
-        int size = 0;
-        for (int cell = 0; cell < 162; cell++) {
-            all[size++] = x.cellOf(cell);
-        }
-        for (int i = 0; i < 72; i++) {
-            all[size++] = x.netOf(i / 12, i % 12);
-        }
-        for (int i = 0; i < 96; i++) {
-            all[size++] = x.claimOf(i / 8, i % 8);
-        }
-        for (int i = 0; i < 24; i++) {
-            all[size++] = i == 10 || i == 11 ? 0 : x.count(i);
-        }
-        for (int i = 0; i < 12; i++) {
-            all[size++] = x.docketAt(i);
-            all[size++] = x.cost(i / 2, i % 2);
-        }
-        all[size++] = x.wronged();
-        return all;
-    }
-
-    private static boolean same(int[] one, int[] other) {
-        return java.util.Arrays.equals(one, other);
     }
 
     private static void undoOfErrors() {

@@ -5,8 +5,12 @@ import java.util.TreeMap;
 
 /** Long runs of calls, whose answers are compared with those of the model. */
 public final class ModelTest {
-    private static final int RUNS = 400;
+    private static final int RUNS = 1500;
+    /** What an object answers to later calls is free. */
     private static final int CALLS = 512;
+    /** No step below makes more calls. */
+    private static final int MOST_AT_ONCE = 12;
+    private static final int CELLS = 162;
     /** What the runs must have come to, so that they are worth something. */
     private static final String[] WANTED = {
         "diggings with 0 victims", "diggings with 1 victims", "diggings with 2 victims",
@@ -24,6 +28,7 @@ public final class ModelTest {
     private final boolean tight;
     private final int width;
     private final int height;
+    private int made = 0;
 
     private ModelTest(int seed, Map<String, Integer> seen) {
         random = new Random(seed);
@@ -48,37 +53,25 @@ public final class ModelTest {
 
     /** Returns nothing, or the calls up to the first one that is answered otherwise. */
     private String run() {
-        int made = 0;
-        if (tight) {
-            made += fence();
-        }
-        while (made < CALLS) {
+        boolean same = !tight || fence();
+        while (same && made + MOST_AT_ONCE + CELLS <= CALLS) {
             int kind = random.nextInt(100);
-            boolean same = kind < 62 ? changeOnce() : kind < 88 ? askOnce() : writeOnce();
-            made++;
-            if (!same) {
-                return ":" + calls;
-            }
+            same = kind < 62 ? changeOnce() : kind < 88 ? askOnce() : writeOnce();
         }
-        return "";
+        same = same && cells(0, CELLS);
+        return same ? "" : ":" + calls;
     }
 
     /** Blocks what is right of and below the part of the chip that a tight run uses. */
-    private int fence() {
-        int made = 0;
-        for (int i = 0; i <= Math.max(width, height); i++) {
-            if (i <= height && width < 9 && i < 9) {
-                x.block(9 * i + width, 1);
-                model.block(9 * i + width, 1);
-                made++;
-            }
-            if (i < width && height < 9) {
-                x.block(9 * height + i, 1);
-                model.block(9 * height + i, 1);
-                made++;
-            }
+    private boolean fence() {
+        boolean all = true;
+        for (int row = 0; row < height && width < 9 && all; row++) {
+            all = block(9 * row + width, 1);
         }
-        return made;
+        for (int column = 0; column < width && height < 9 && all; column++) {
+            all = block(9 * height + column, 1);
+        }
+        return all;
     }
 
     private int place() {
@@ -100,6 +93,7 @@ public final class ModelTest {
     }
 
     private boolean same(String call, int got, int want) {
+        made++;
         calls.append("\n  ").append(call).append(" answered ").append(got);
         if (got != want) {
             calls.append(", the model ").append(want);
@@ -148,14 +142,16 @@ public final class ModelTest {
             return same("give " + net + " " + coins, x.give(net, coins), model.give(net, coins));
         }
         if (kind < 91) {
-            int place = place();
-            int is = random.nextInt(20) == 0 ? random.nextInt(4) - 1 : random.nextInt(2);
-            return same("block " + place + " " + is, x.block(place, is), model.block(place, is));
+            return block(place(), random.nextInt(20) == 0 ? random.nextInt(4) - 1 : random.nextInt(2));
         }
         if (kind < 97) {
             return same("undo", x.undo(), model.undo());
         }
         return same("play", x.play(), model.play());
+    }
+
+    private boolean block(int place, int is) {
+        return same("block " + place + " " + is, x.block(place, is), model.block(place, is));
     }
 
     private boolean addNet() {
@@ -173,9 +169,10 @@ public final class ModelTest {
         int digs = random.nextInt(30) == 0 ? random.nextInt(4) - 1 : random.nextInt(2);
         int index = random.nextInt(20) == 0 ? random.nextInt(400) - 2 : random.nextInt(14);
         int what = random.nextInt(27) - 1;
+        int cell = random.nextInt(CELLS + 2) - 5;
         switch (random.nextInt(14)) {
             case 0: return same("netOf " + net + " " + what % 13, x.netOf(net, what % 13), model.netOf(net, what % 13));
-            case 1: return cells();
+            case 1: return cells(cell, cell + 9);
             case 2: return same("wireAt " + net + " " + index, x.wireAt(net, index), model.wireAt(net, index));
             case 3: return same("cost " + net + " " + digs, x.cost(net, digs), model.cost(net, digs));
             case 4: return same("price " + net, x.price(net), model.price(net));
@@ -183,35 +180,35 @@ public final class ModelTest {
             case 6: return same("routeAt " + net + " " + digs + " " + index,
                 x.routeAt(net, digs, index), model.routeAt(net, digs, index));
             case 7: return same("bestOrder " + (index % 5 - 2), x.bestOrder(index % 5 - 2), model.bestOrder(index % 5 - 2));
-            case 8: return claims();
+            case 8: return claim(claimNumber());
             case 9: return same("docketAt " + index % 7, x.docketAt(index % 7), model.docketAt(index % 7));
             case 10: return same("wronged", x.wronged(), model.wronged());
             case 11: return same("fault " + what % 3, x.fault(what % 3), model.fault(what % 3));
-            case 12: return nets();
+            case 12: return net(net);
             default: return same("count " + what, x.count(what), model.count(what));
         }
     }
 
-    private boolean cells() {
+    private boolean cells(int begin, int end) {
         boolean all = true;
-        for (int cell = -1; cell <= 162 && all; cell++) {
+        for (int cell = begin; cell < end && all; cell++) {
             all = same("cellOf " + cell, x.cellOf(cell), model.cellOf(cell));
         }
         return all;
     }
 
-    private boolean claims() {
+    private boolean claim(int claim) {
         boolean all = true;
-        for (int i = 0; i < 108 && all; i++) {
-            all = same("claimOf " + i / 9 + " " + i % 9, x.claimOf(i / 9, i % 9), model.claimOf(i / 9, i % 9));
+        for (int what = 0; what < 9 && all; what++) {
+            all = same("claimOf " + claim + " " + what, x.claimOf(claim, what), model.claimOf(claim, what));
         }
         return all;
     }
 
-    private boolean nets() {
+    private boolean net(int net) {
         boolean all = true;
-        for (int i = 0; i < 72 && all; i++) {
-            all = same("netOf " + i / 12 + " " + i % 12, x.netOf(i / 12, i % 12), model.netOf(i / 12, i % 12));
+        for (int what = 0; what < 12 && all; what++) {
+            all = same("netOf " + net + " " + what, x.netOf(net, what), model.netOf(net, what));
         }
         return all;
     }

@@ -10,7 +10,6 @@ public final class PlacesTest {
         block();
         net();
         netPrecedence();
-        netAfterUndo();
         give();
         netOf();
         cellOf();
@@ -136,31 +135,6 @@ public final class PlacesTest {
         Check.due("its purse", x.netOf(5, 4), 7);
         Check.due("its pin", x.cellOf(70), 15);
         Check.due("the undone one's pin", x.cellOf(45), Scenes.MISSING);
-    }
-
-    private static void netAfterUndo() {
-        for (int changes = 0; changes < 7; changes++) {
-            WireDigs x = Scenes.gate(2, 100, 1, 20);
-            x.lay(0);
-            x.dig(1);
-            for (int i = 0; i < 4; i++) {
-                x.undo();
-            }
-            Check.due("no nets", x.count(0), 0);
-            for (int i = 0; i < changes; i++) {
-                x.pass(1);
-            }
-            Check.due("net 0 again", x.net(1, 2, 3, 5, 6), 0);
-            Check.due("net 1 again", x.net(9, 10, -1, 7, 8), 1);
-            int[] facts0 = {1, 2, 3, 5, 6, 0, 0, 0, 0, 0, 0};
-            int[] facts1 = {9, 10, Scenes.MISSING, 7, 8, 0, 0, 0, 0, 0, 0};
-            for (int what = 0; what < facts0.length; what++) {
-                Check.due("netOf(0, " + what + ") is new", x.netOf(0, what), facts0[what]);
-                Check.due("netOf(1, " + what + ") is new", x.netOf(1, what), facts1[what]);
-            }
-            Check.due("claims", x.count(4), 0);
-            Check.due("free cells", x.count(3), 136);
-        }
     }
 
     private static void give() {

