@@ -11,6 +11,10 @@ public final class ModelTest {
     /** No step below makes more calls. */
     private static final int MOST_AT_ONCE = 12;
     private static final int CELLS = 162;
+    private static final int[] EXTREMES = {
+        Integer.MIN_VALUE, Integer.MIN_VALUE + 1, -1000004, -162, -10, -3, -2, -1, 6, 12, 60, 80, 81, 161, 162,
+        127, 256, 9999, 100000, 1000000, 65536 + 48, Integer.MAX_VALUE - 1, Integer.MAX_VALUE
+    };
     /** What the runs must have come to, so that they are worth something. */
     private static final String[] WANTED = {
         "diggings with 0 victims", "diggings with 1 victims", "diggings with 2 victims",
@@ -74,6 +78,11 @@ public final class ModelTest {
         return all;
     }
 
+    /** Now and then an argument is far away from those that are usual. */
+    private int or(int usual) {
+        return random.nextInt(100) == 0 ? EXTREMES[random.nextInt(EXTREMES.length)] : usual;
+    }
+
     private int place() {
         if (random.nextInt(50) == 0) {
             return random.nextInt(85) - 2;
@@ -107,8 +116,8 @@ public final class ModelTest {
         if (nets < 5 && kind < 40 || kind < 2) {
             return addNet();
         }
-        int net = netNumber();
-        int claim = claimNumber();
+        int net = or(netNumber());
+        int claim = or(claimNumber());
         if (kind < 20) {
             return same("lay " + net, x.lay(net), model.lay(net));
         }
@@ -129,20 +138,20 @@ public final class ModelTest {
 
     private boolean rareChange(int kind, int net) {
         if (kind < 79) {
-            int acts = random.nextInt(10) == 0 ? random.nextInt(55) - 2 : 1 + random.nextInt(3);
+            int acts = or(random.nextInt(10) == 0 ? random.nextInt(55) - 2 : 1 + random.nextInt(3));
             return same("pass " + acts, x.pass(acts), model.pass(acts));
         }
         if (kind < 83) {
-            int what = random.nextInt(20) == 0 ? random.nextInt(6) - 1 : random.nextInt(4);
-            int value = random.nextInt(20) == 0 ? random.nextInt(54) - 2 : random.nextInt(tight ? 8 : 20);
+            int what = or(random.nextInt(20) == 0 ? random.nextInt(6) - 1 : random.nextInt(4));
+            int value = or(random.nextInt(20) == 0 ? random.nextInt(54) - 2 : random.nextInt(tight ? 8 : 20));
             return same("set " + what + " " + value, x.set(what, value), model.set(what, value));
         }
         if (kind < 87) {
-            int coins = random.nextInt(20) == 0 ? random.nextInt(10003) - 1 : 1 + random.nextInt(60);
+            int coins = or(random.nextInt(20) == 0 ? random.nextInt(10003) - 1 : 1 + random.nextInt(60));
             return same("give " + net + " " + coins, x.give(net, coins), model.give(net, coins));
         }
         if (kind < 91) {
-            return block(place(), random.nextInt(20) == 0 ? random.nextInt(4) - 1 : random.nextInt(2));
+            return block(or(place()), or(random.nextInt(20) == 0 ? random.nextInt(4) - 1 : random.nextInt(2)));
         }
         if (kind < 97) {
             return same("undo", x.undo(), model.undo());
@@ -156,34 +165,36 @@ public final class ModelTest {
 
     private boolean addNet() {
         int[] a = {
-            place(), place(), random.nextInt(3) > 0 ? place() : -1,
-            random.nextInt(20) == 0 ? random.nextInt(13) - 1 : random.nextInt(4),
-            random.nextInt(20) == 0 ? random.nextInt(10003) - 1 : random.nextInt(120)
+            or(place()), or(place()), or(random.nextInt(3) > 0 ? place() : -1),
+            or(random.nextInt(20) == 0 ? random.nextInt(13) - 1 : random.nextInt(4)),
+            or(random.nextInt(20) == 0 ? random.nextInt(10003) - 1 : random.nextInt(120))
         };
         return same("net " + a[0] + " " + a[1] + " " + a[2] + " " + a[3] + " " + a[4],
             x.net(a[0], a[1], a[2], a[3], a[4]), model.net(a[0], a[1], a[2], a[3], a[4]));
     }
 
     private boolean askOnce() {
-        int net = netNumber();
-        int digs = random.nextInt(30) == 0 ? random.nextInt(4) - 1 : random.nextInt(2);
-        int index = random.nextInt(20) == 0 ? random.nextInt(400) - 2 : random.nextInt(14);
-        int what = random.nextInt(27) - 1;
-        int cell = random.nextInt(CELLS + 2) - 5;
+        int net = or(netNumber());
+        int digs = or(random.nextInt(30) == 0 ? random.nextInt(4) - 1 : random.nextInt(2));
+        int index = or(random.nextInt(20) == 0 ? random.nextInt(400) - 2 : random.nextInt(14));
+        int few = or(random.nextInt(7) - 2);
+        int what = or(random.nextInt(27) - 1);
+        int fact = or(random.nextInt(14) - 1);
+        int cell = or(random.nextInt(CELLS + 2) - 5);
         switch (random.nextInt(14)) {
-            case 0: return same("netOf " + net + " " + what % 13, x.netOf(net, what % 13), model.netOf(net, what % 13));
-            case 1: return cells(cell, cell + 9);
+            case 0: return same("netOf " + net + " " + fact, x.netOf(net, fact), model.netOf(net, fact));
+            case 1: return same("cellOf " + cell, x.cellOf(cell), model.cellOf(cell));
             case 2: return same("wireAt " + net + " " + index, x.wireAt(net, index), model.wireAt(net, index));
             case 3: return same("cost " + net + " " + digs, x.cost(net, digs), model.cost(net, digs));
             case 4: return same("price " + net, x.price(net), model.price(net));
             case 5: return same("victims " + net, x.victims(net), model.victims(net));
             case 6: return same("routeAt " + net + " " + digs + " " + index,
                 x.routeAt(net, digs, index), model.routeAt(net, digs, index));
-            case 7: return same("bestOrder " + (index % 5 - 2), x.bestOrder(index % 5 - 2), model.bestOrder(index % 5 - 2));
-            case 8: return claim(claimNumber());
-            case 9: return same("docketAt " + index % 7, x.docketAt(index % 7), model.docketAt(index % 7));
+            case 7: return same("bestOrder " + few, x.bestOrder(few), model.bestOrder(few));
+            case 8: return claim(or(claimNumber()));
+            case 9: return same("docketAt " + few, x.docketAt(few), model.docketAt(few));
             case 10: return same("wronged", x.wronged(), model.wronged());
-            case 11: return same("fault " + what % 3, x.fault(what % 3), model.fault(what % 3));
+            case 11: return same("fault " + digs, x.fault(digs), model.fault(digs));
             case 12: return net(net);
             default: return same("count " + what, x.count(what), model.count(what));
         }
@@ -230,7 +241,7 @@ public final class ModelTest {
         }
         boolean all = true;
         for (int i = 0; i < order.length() && all; i++) {
-            int c = order.charAt(i);
+            int c = or(order.charAt(i));
             all = same("type " + c, x.type(c), model.type(c));
         }
         int what = random.nextInt(2);
