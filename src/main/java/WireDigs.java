@@ -294,7 +294,7 @@ public final class WireDigs {
 
     private int gatherWaiting() {
         int size = 0;
-        for (int net = 0; net < now.netCount && size < PLANNED; net++) {
+        for (int net = 0; net < now.netCount && net < NETS && size < PLANNED; net++) {
             if (!now.nets[net].joined) {
                 waiting[size] = net;
                 size++;

@@ -48,6 +48,8 @@ public final class LanguageTest extends TreeScanner<Void, String> {
     private final SourcePositions positions;
     private final Map<String, Set<String>> callees = new HashMap<>();
     private final Set<String> declared = new TreeSet<>();
+    private final Set<String> publicNames = new TreeSet<>();
+    private final Set<String> otherNames = new TreeSet<>();
     private int classes = 0;
 
     private LanguageTest(CompilationUnitTree unit, SourcePositions positions) {
@@ -65,6 +67,10 @@ public final class LanguageTest extends TreeScanner<Void, String> {
             test.scan(unit, "");
             Check.dueThat("at most twelve classes: " + test.classes, test.classes <= 12);
             test.depths();
+            test.otherNames.remove("<init>");
+            for (String name : test.otherNames) {
+                Check.dueThat(name + " bears no public name", !test.publicNames.contains(name));
+            }
         }
         Check.finish();
     }
@@ -110,6 +116,8 @@ public final class LanguageTest extends TreeScanner<Void, String> {
         long lines = lineOf(positions.getEndPosition(unit, tree)) - begin + 1;
         Check.dueThat(tree.getName() + " is short: " + lines, lines <= 60);
         declared.add(tree.getName().toString());
+        boolean isPublic = tree.getModifiers().getFlags().contains(Modifier.PUBLIC);
+        (isPublic ? publicNames : otherNames).add(tree.getName().toString());
         Check.dueThat(tree.getName() + " takes at most seven", tree.getParameters().size() <= 7);
         Tree answer = tree.getReturnType();
         Check.dueThat(tree.getName() + " answers a type of the rules",
